@@ -579,6 +579,7 @@ public final class Handoverhouse {
         }
     }
 
+    /** A call; an emergency is one without another leg. */
     private static final class Call {
         final Leg caller = new Leg();
         final Leg other = new Leg();
@@ -587,10 +588,6 @@ public final class Handoverhouse {
         int handovers;
         int pingPongs;
         int ended = GOES_ON;
-
-        boolean isEmergency() {
-            return !other.isUsed();
-        }
 
         boolean hasLegOn(int mast) {
             return caller.mast == mast || other.mast == mast;
@@ -893,7 +890,7 @@ public final class Handoverhouse {
         }
 
         private int price(Call call, Handset payer) {
-            if (call.isEmergency()) {
+            if (!call.other.isUsed()) {
                 return 0;
             }
             return masts.all[call.caller.mast].operator == payer.operator ? 1 : 3;
@@ -964,7 +961,7 @@ public final class Handoverhouse {
         private int callToPush(int mast) {
             for (int c = callCount - 1; c >= 0; c--) {
                 Call call = calls[c];
-                if (call.ended == GOES_ON && !call.isEmergency() && call.hasLegOn(mast)) {
+                if (call.ended == GOES_ON && call.other.isUsed() && call.hasLegOn(mast)) {
                     return c;
                 }
             }
@@ -973,16 +970,18 @@ public final class Handoverhouse {
 
         void end(Call call, int how) {
             call.ended = how;
-            release(call.caller);
-            release(call.other);
+            if (call.caller.isUsed()) {
+                release(call.caller);
+            }
+            if (call.other.isUsed()) {
+                release(call.other);
+            }
         }
 
         /** The leg keeps its mast, because one may ask where it was as the call ended. */
         private void release(Leg leg) {
-            if (leg.isUsed()) {
-                load[leg.mast]--;
-                handsets[leg.handset].call = NONE;
-            }
+            load[leg.mast]--;
+            handsets[leg.handset].call = NONE;
         }
 
         void switchOff(Handset handset) {

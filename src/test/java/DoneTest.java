@@ -98,7 +98,8 @@ public final class DoneTest {
         x.call(0, 1);
         Check.due("page: not one that is asleep", x.many(8), 6 + 3);
         farAway();
-        nextArea();
+        nextArea(0);
+        nextArea(2);
     }
 
     /** A call carries its leg to another area; the register knows the old one still. */
@@ -109,8 +110,8 @@ public final class DoneTest {
         Check.due("page: two areas away, pages", x.many(8), 2);
     }
 
-    private static void nextArea() {
-        Handoverhouse x = carriedTo(2);
+    private static void nextArea(int area) {
+        Handoverhouse x = carriedTo(area);
         Check.due("page: in a next area but in a call", x.call(1, 0), -4);
         Check.due("page: in a next area, would be found", x.many(13), 2);
         Check.due("page: in a next area, pages", x.many(8), 3);

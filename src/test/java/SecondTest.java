@@ -7,6 +7,7 @@ public final class SecondTest {
         moveAll();
         camp();
         campStays();
+        campStaysWithQualityOne();
         campLeavesOneNotHeard();
         tell();
         handOver();
@@ -14,6 +15,9 @@ public final class SecondTest {
         handOverNeedsTwoInARow();
         handOverNeedsChannel();
         handOverNeedsAwake();
+        handOverToSmallestOfEquals();
+        handOverWaitsAnewOnTheNewOne();
+        handOverOfOtherLeg();
         rescue();
         pingPong(2, 1);
         pingPong(5, 1);
@@ -114,6 +118,19 @@ public final class SecondTest {
             x.pass(1);
             Check.due("camp: best is more by " + more, x.ofHandset(0, 3), more < 3 ? 0 : 1);
         }
+    }
+
+    private static void campStaysWithQualityOne() {
+        Handoverhouse x = new Handoverhouse();
+        x.mast(0, 20, 0, 4, 0, 0);
+        x.handset(0, 19, 0, 0);
+        x.pass(1);
+        x.mast(19, 10, 1, 4, 0, 0);
+        x.wake(1, false);
+        x.mast(40, 24, 1, 4, 0, 0);
+        Check.due("camp: best is more by 2", x.quality(2, 19), 3);
+        x.pass(1);
+        Check.due("camp: quality 1 is heard", x.ofHandset(0, 3), 0);
     }
 
     private static void campLeavesOneNotHeard() {
@@ -233,6 +250,42 @@ public final class SecondTest {
         x.wake(1, false);
         x.pass(5);
         Check.due("handover: not to one asleep", x.ofCall(0, 4), 0);
+    }
+
+    private static void handOverToSmallestOfEquals() {
+        Handoverhouse x = inEmergency();
+        x.mast(50, 32, 1, 4, 1, 0);
+        x.mast(50, 32, 2, 4, 1, 0);
+        x.pass(2);
+        Check.due("handover: the smallest of two", x.ofCall(0, 7), 1);
+    }
+
+    private static void handOverWaitsAnewOnTheNewOne() {
+        Handoverhouse x = inEmergency();
+        x.mast(50, 32, 1, 4, 1, 0);
+        x.pass(2);
+        x.mast(50, 34, 2, 4, 1, 0);
+        x.pass(1);
+        Check.due("handover: waits on the new one", x.ofCall(0, 7), 1);
+        x.pass(1);
+        Check.due("handover: to a third one", x.ofCall(0, 7), 2);
+    }
+
+    private static void handOverOfOtherLeg() {
+        Handoverhouse x = new Handoverhouse();
+        x.mast(50, 60, 0, 4, 0, 0);
+        x.handset(0, 50, 0, 50);
+        x.handset(0, 80, 0, 50);
+        x.pass(1);
+        x.call(0, 1);
+        x.mast(99, 60, 1, 4, 0, 0);
+        x.pass(2);
+        Check.due("handover of the other leg: caller's", x.ofCall(0, 7), 0);
+        Check.due("handover of the other leg", x.ofCall(0, 8), 1);
+        Check.due("handover of the other leg: handset", x.ofHandset(1, 3), 1);
+        Check.due("handover of the other leg: carried", x.ofMast(0, 9), 3);
+        Check.due("handover of the other leg: carried there", x.ofMast(1, 9), 1);
+        Check.due("handover of the other leg: load", x.ofMast(0, 7), 1);
     }
 
     /** Its own is not heard, and one that is better by less than 4 is: it goes there at once. */

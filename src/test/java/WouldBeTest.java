@@ -2,6 +2,8 @@
 public final class WouldBeTest {
     public static void main(String[] args) {
         endsIn();
+        endsInAsItStands();
+        endsInByOperator();
         endsInRefused();
         wouldBeOn();
         wouldBeOnRefused();
@@ -11,6 +13,7 @@ public final class WouldBeTest {
         bestPlaceRefused();
         digestOfNothing();
         digest();
+        digestAsksTheRightOnes();
         Check.end();
     }
 
@@ -39,6 +42,41 @@ public final class WouldBeTest {
         Check.due("endsIn: an emergency", x.endsIn(1, 99), -1);
         x.speed(0, 3);
         Check.due("endsIn: one that is dropped", x.endsIn(1, 99), 22);
+    }
+
+    /** What has been waited, and how long it was bad, counts for what would be. */
+    private static void endsInAsItStands() {
+        Handoverhouse x = new Handoverhouse();
+        x.mast(10, 20, 0, 4, 0, 0);
+        x.handset(0, 10, 0, 10);
+        x.pass(1);
+        x.emergency(0);
+        x.mast(10, 22, 1, 4, 0, 0);
+        Check.due("as it stands: not in 1", x.wouldBeOn(0, 1), 0);
+        Check.due("as it stands: in 2", x.wouldBeOn(0, 2), 1);
+        x.pass(1);
+        Check.due("as it stands: then in 1", x.wouldBeOn(0, 1), 1);
+        x.wake(1, false);
+        x.speed(0, 3);
+        x.pass(5);
+        Check.due("as it stands: ends in 3", x.endsIn(0, 9), 3);
+        x.pass(1);
+        Check.due("as it stands: ends in 2", x.endsIn(0, 9), 2);
+        x.pass(1);
+        Check.due("as it stands: ends in 1", x.endsIn(0, 9), 1);
+    }
+
+    private static void endsInByOperator() {
+        Handoverhouse x = new Handoverhouse();
+        x.mast(10, 60, 0, 4, 0, 1);
+        x.handset(0, 10, 0, 9);
+        x.handset(1, 10, 0, 9);
+        x.pass(1);
+        x.call(0, 1);
+        Check.due("by operator: another one", x.endsIn(0, 20), 4);
+        x.hang(0);
+        x.call(1, 0);
+        Check.due("by operator: its own", x.endsIn(1, 20), 10);
     }
 
     private static void endsInRefused() {
@@ -114,30 +152,37 @@ public final class WouldBeTest {
         Check.due("bestPlace: there are 6", x.bestPlace(10, 0), -1);
     }
 
-    /** Asked, and then tried out at every place, mast by mast. */
+    /** Asked, and then tried out at every place with a mast more. */
     private static void bestPlaceWithNoise() {
-        for (int frequency = 0; frequency <= 2; frequency++) {
-            for (int power = 10; power <= 60; power += 10) {
-                int best = -1;
-                int most = -1;
-                for (int place = 0; place < 100; place++) {
-                    Handoverhouse tried = noisy();
-                    tried.mast(place, power, frequency, 1, 0, 0);
-                    if (tried.many(14) > most) {
-                        most = tried.many(14);
-                        best = place;
-                    }
+        for (int road = 0; road < 6; road++) {
+            for (int frequency = 0; frequency <= 2; frequency++) {
+                for (int power = 10; power <= 60; power += 7) {
+                    String what = "bestPlace: " + road + ", " + power + ", " + frequency;
+                    Check.due(what, noisy(road).bestPlace(power, frequency), triedPlace(road, power, frequency));
                 }
-                Check.due("bestPlace: " + power + ", " + frequency, noisy().bestPlace(power, frequency), best);
             }
         }
     }
 
-    private static Handoverhouse noisy() {
+    private static int triedPlace(int road, int power, int frequency) {
+        int best = -1;
+        int most = -1;
+        for (int place = 0; place < 100; place++) {
+            Handoverhouse tried = noisy(road);
+            tried.mast(place, power, frequency, 1, 0, 0);
+            if (tried.many(14) > most) {
+                most = tried.many(14);
+                best = place;
+            }
+        }
+        return best;
+    }
+
+    private static Handoverhouse noisy(int road) {
         Handoverhouse x = new Handoverhouse();
-        x.mast(20, 30, 0, 4, 0, 0);
-        x.mast(35, 25, 0, 4, 0, 0);
-        x.mast(70, 40, 1, 4, 0, 0);
+        x.mast(20 + 3 * road, 30 - 2 * road, 0, 4, 0, 0);
+        x.mast(45 + road, 25 + 4 * road, road % 3, 4, 0, 0);
+        x.mast(70 - 5 * road, 15 + 3 * road, 1, 4, 0, 0);
         x.mast(90, 60, 2, 4, 0, 0);
         x.wake(3, false);
         x.handset(0, 20, 0, 10);
@@ -172,11 +217,50 @@ public final class WouldBeTest {
     }
 
     private static void digest() {
-        Handoverhouse x = noisy();
-        x.emergency(0);
-        x.hang(0);
-        x.emergency(1);
-        x.pass(3);
+        for (int road = 0; road < 6; road++) {
+            Handoverhouse x = noisy(road);
+            x.emergency(0);
+            x.hang(0);
+            x.emergency(1);
+            x.text(0, 1);
+            x.speed(1, 2);
+            x.pass(3);
+            Check.due("digest: " + road, x.digest(), digestOf(x));
+        }
+    }
+
+    /** Answers that differ from those beside them, so that a digest of others would show. */
+    private static void digestAsksTheRightOnes() {
+        Handoverhouse x = new Handoverhouse();
+        x.mast(3, 21, 0, 4, 0, 0);
+        x.mast(64, 31, 1, 4, 0, 0);
+        x.handset(0, 0, 3, 10);
+        x.handset(0, 3, 0, 21);
+        x.handset(0, 3, 0, 21);
+        x.pass(1);
+        x.speed(0, 2);
+        x.call(1, 2);
+        x.pass(1);
+        Check.due("right ones: ends in 20", x.endsIn(0, 20) != x.endsIn(0, 21), true);
+        while (x.wouldBeOn(0, 8) == x.wouldBeOn(0, 9)) {
+            x.pass(1);
+        }
+        Check.due("right ones", x.digest(), digestOf(x));
+        Handoverhouse edges = new Handoverhouse();
+        edges.mast(13, 21, 0, 4, 0, 0);
+        edges.mast(46, 21, 2, 4, 0, 0);
+        edges.mast(86, 21, 1, 4, 0, 0);
+        edges.wake(1, false);
+        Check.due("right ones: best of 33", edges.best(33) != edges.best(34), true);
+        Check.due("right ones: best of 66", edges.best(66) != edges.best(65), true);
+        Check.due("right ones: edges", edges.digest(), digestOf(edges));
+        edges.wake(1, true);
+        Check.due("right ones: best of 66 and 67", edges.best(66) != edges.best(67), true);
+        Check.due("right ones: a third mast", edges.digest(), digestOf(edges));
+    }
+
+    /** The document's sum, from the object's own answers. */
+    private static long digestOf(Handoverhouse x) {
         long d = 58188;
         for (int what = 0; what <= 14; what++) {
             d = d * 31 + x.many(what);
@@ -202,7 +286,6 @@ public final class WouldBeTest {
         }
         d = d * 31 + x.best(33);
         d = d * 31 + x.best(66);
-        d = d * 31 + x.bestPlace(30, 1);
-        Check.due("digest", x.digest(), d);
+        return d * 31 + x.bestPlace(30, 1);
     }
 }
