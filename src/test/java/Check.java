@@ -4,6 +4,10 @@ final class Check {
         void run();
     }
 
+    interface RunWith {
+        void run(int value);
+    }
+
     private static int wrong = 0;
 
     private Check() {
@@ -44,6 +48,12 @@ final class Check {
         }
     }
 
+    static void noChange(String what, Handoverhouse x, Run call) {
+        long before = x.digest();
+        call.run();
+        due(what + " changes nothing", x.digest(), before);
+    }
+
     static void noNumber(String what, Handoverhouse x, Run call) {
         refused(what, x, IndexOutOfBoundsException.class, call);
     }
@@ -54,6 +64,20 @@ final class Check {
 
     static void noState(String what, Handoverhouse x, Run call) {
         refused(what, x, IllegalStateException.class, call);
+    }
+
+    /** Every number that is too small or too large, the nearest and the farthest ones, has to be refused. */
+    static void outside(String what, Handoverhouse x, int least, int most, RunWith call) {
+        for (int value : new int[] {least - 1, most + 1, Integer.MIN_VALUE, Integer.MAX_VALUE}) {
+            noArgument(what + " " + value, x, () -> call.run(value));
+        }
+    }
+
+    /** There are so many, numbered from 0: every number beside them has to be refused. */
+    static void noSuch(String what, Handoverhouse x, int count, RunWith call) {
+        for (int value : new int[] {-1, count, Integer.MIN_VALUE, Integer.MAX_VALUE}) {
+            noNumber(what + " " + value, x, () -> call.run(value));
+        }
     }
 
     static void tell(String what) {
