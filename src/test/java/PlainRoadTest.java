@@ -46,7 +46,7 @@ public final class PlainRoadTest {
             Check.due("runs have calls that ended by " + how, ended[how] >= 10, true);
         }
         Check.due("runs have handovers", seen[6] >= 100, true);
-Check.due("runs have ping-pongs", seen[7] >= 10, true);
+        Check.due("runs have ping-pongs", seen[7] >= 10, true);
         Check.end();
     }
 

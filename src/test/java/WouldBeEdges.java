@@ -34,6 +34,22 @@ final class WouldBeEdges {
         Check.due("ends in: has ended, of 99", x.endsIn(0, 99), 0);
     }
 
+    @Says(where = "section 4", words = "what would be (nothing is changed).")
+    static void nothingIsChanged() {
+        Handoverhouse asked = fullTo(6, 8);
+        Handoverhouse quiet = fullTo(6, 8);
+        Check.due("nothing is changed: all calls were made", asked.many(3), 24);
+        Check.due("nothing is changed: some go on", asked.many(4) > 2, true);
+        for (int second = 0; second < 60; second++) {
+            asked.endsIn(second % 24, 99);
+            asked.wouldBeOn(second % 8, 99);
+            asked.bestPlace(10 + second % 51, second % 3);
+            Check.due("nothing is changed: pass", asked.pass(1), quiet.pass(1));
+            Check.due("nothing is changed: digest", asked.digest(), quiet.digest());
+        }
+        Check.due("nothing is changed: mean", asked.meanSeconds(), quiet.meanSeconds());
+    }
+
     @Says(where = "promise 21", words = "Throws `IndexOutOfBoundsException` if there is no such CALL")
     static void endsInOfNone() {
         Handoverhouse x = inCall(50);
@@ -146,7 +162,7 @@ final class WouldBeEdges {
         Check.due("digest: on both sides of 0", answersBelowZero > 5 && answersBelowZero < 30, true);
     }
 
-    /** With two masts or more and handsets, all 24 calls have been made. */
+    /** Calls as many as can be made, some of which go on, and texts. */
     private static Handoverhouse fullTo(int masts, int handsets) {
         Handoverhouse x = new Handoverhouse();
         for (int m = 0; m < masts; m++) {
@@ -156,15 +172,17 @@ final class WouldBeEdges {
             x.handset(h % 2, h * 12, h % 4, 40 + h);
         }
         x.pass(1);
-        for (int made = 0; made < 24 && handsets > 0; made++) {
-            if (x.many(3) < 24) {
-                x.emergency(made % handsets);
+        for (int turn = 0; turn < 24 && handsets > 0; turn++) {
+            int from = turn % handsets;
+            int to = (turn + 1) % handsets;
+            x.text(from, to);
+            x.pass(1);
+            if (x.ofHandset(from, 7) >= 0) {
+                x.hang(x.ofHandset(from, 7));
             }
-            if (x.many(3) < 24) {
-                x.call(made % handsets, (made + 1) % handsets);
+            if (turn % 4 != 0 || x.call(from, to) < 0) {
+                x.emergency(from);
             }
-            x.text(made % handsets, (made + 1) % handsets);
-            x.pass(2);
         }
         return x;
     }
